@@ -431,9 +431,9 @@ public final class ArmPendant {
     }
 
     /**
-     * The bits of a double by arithmetic, as the language leaves no call for them. Halving and doubling
-     * are exact here: what the tip and the sines can be stays far from the least and the greatest doubles,
-     * and they are never the zero below zero, as they are sums that begin at 0.0.
+     * The bits of a double by arithmetic, as the language leaves no call for them. Doubling is exact here:
+     * the tip and the sines stay far below 2 to the 53rd and far above the least doubles, and they are never
+     * the zero below zero, as they are sums that begin at 0.0.
      */
     private static long bitsOf(double value) {
         if (value == 0.0) {
@@ -441,10 +441,6 @@ public final class ArmPendant {
         }
         double size = value < 0.0 ? 0.0 - value : value;
         long exponent = 1075L;
-        for (int i = 0; i < 1100 && size >= 9007199254740992.0; i++) {
-            size = size / 2.0;
-            exponent++;
-        }
         for (int i = 0; i < 1100 && size < 4503599627370496.0; i++) {
             size = size * 2.0;
             exponent--;
@@ -700,8 +696,6 @@ public final class ArmPendant {
             linesDone = 0;
             errorLine = NONE;
             searchOfNextGo = NONE;
-            searchOfThisGo = NONE;
-            dropWhatIsUnderWay();
         }
 
         void dropWhatIsUnderWay() {

@@ -308,6 +308,33 @@ public final class ArmTest {
         Check.due("it stops", x.tick(1), 3);
         Check.due("in a box", x.about(3), 2);
         Check.due("it did not go", x.state(0), 0);
+        eachSideOfABox();
+    }
+
+    /** The arm goes up in one tick to x 0, y 400: each box is one beside that, and then one with it. */
+    private static void eachSideOfABox() {
+        int[][] beside = {{1, 399, 2, 401}, {-2, 399, -1, 401}, {-1, 401, 1, 402}, {-1, 398, 1, 399}};
+        int[][] with = {{0, 399, 2, 401}, {-2, 399, 0, 401}, {-1, 400, 1, 402}, {-1, 398, 1, 400}};
+        for (int i = 0; i < 4; i++) {
+            Check.due("beside " + i, stateBehindATick(beside[i]), 250000);
+            Check.due("with " + i, stateBehindATick(with[i]), 0);
+        }
+    }
+
+    private static int stateBehindATick(int[] box) {
+        ArmPendant x = new ArmPendant();
+        x.joint(0, 0, 400, 100000, 100000);
+        for (int j = 1; j < 4; j++) {
+            x.joint(j, 0, 0, 1, 1);
+        }
+        x.jog(0, 250000);
+        x.teach(0);
+        x.jog(0, 150000);
+        x.box(1, box[0], box[1], box[2], box[3]);
+        x.line(0, 0, 100);
+        x.run();
+        x.tick(1);
+        return x.state(0) == 150000 ? 0 : x.state(0);
     }
 
     private static void boxRefuses() {

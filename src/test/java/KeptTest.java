@@ -1,16 +1,5 @@
 /** Promises 24 to 28: states kept, gone back to and replayed, counts and the digest. */
-public final class KeptTest {
-    private static final int GO = 0;
-    private static final int WAIT = 1;
-    private static final int OUT = 2;
-    private static final int IF_INPUT = 3;
-    private static final int JUMP = 4;
-    private static final int CALL = 5;
-    private static final int RETURN = 6;
-    private static final int ADD = 7;
-    private static final int SEARCH = 9;
-    private static final int ON_ERROR = 11;
-
+public final class KeptTest extends Programs {
     public static void main(String[] args) {
         keepRefuses();
         keepHoldsAll();
@@ -29,23 +18,6 @@ public final class KeptTest {
         countAnswers();
         digestIsTheSum();
         Check.finish();
-    }
-
-    private static ArmPendant arm(int[]... lines) {
-        ArmPendant x = new ArmPendant();
-        x.joint(0, 0, 100, 10, 10);
-        x.teach(0);
-        x.jog(0, 50);
-        x.teach(1);
-        x.jog(0, 0);
-        for (int[] l : lines) {
-            x.line(l[0], l[1], l[2]);
-        }
-        return x;
-    }
-
-    private static int[] l(int op, int a, int b) {
-        return new int[] {op, a, b};
     }
 
     private static void keepRefuses() {
@@ -120,6 +92,28 @@ public final class KeptTest {
                 Check.due("behind " + ahead + " and " + t, x.digest(), due[t]);
             }
         }
+        // The lines put by are kept, not how many alone.
+        ArmPendant y = arm(l(IF_INPUT, 0, 1), l(CALL, 4, 0), l(CALL, 4, 0), l(WAIT, 1, 0), l(WAIT, 2, 0), l(RETURN, 0, 0));
+        y.run();
+        y.tick(1);
+        y.keep(0);
+        y.stop();
+        y.input(0, true);
+        y.run();
+        y.tick(1);
+        y.back(0);
+        y.tick(2);
+        Check.due("back to the line put by", y.about(2), 4);
+        Check.due("by the other call", y.about(5), 6);
+        Check.due("put by", y.about(4), 1);
+        // The error that was last is kept.
+        y = arm(l(ON_ERROR, 2, 0), l(GO, 9, 1), l(WAIT, 9, 0));
+        y.run();
+        y.tick(2);
+        y.keep(0);
+        y.stop();
+        y.back(0);
+        Check.due("the error", y.about(3), 1);
         // A search that no go has used yet is kept.
         ArmPendant x = arm(l(SEARCH, 2, 0), l(WAIT, 1, 0), l(GO, 1, 100), l(WAIT, 7, 0));
         x.run();

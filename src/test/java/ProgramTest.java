@@ -1,18 +1,5 @@
 /** Promises 14 to 23: lines, scripts, inputs, runs and what is told of them. */
-public final class ProgramTest {
-    private static final int GO = 0;
-    private static final int WAIT = 1;
-    private static final int OUT = 2;
-    private static final int IF_INPUT = 3;
-    private static final int JUMP = 4;
-    private static final int CALL = 5;
-    private static final int RETURN = 6;
-    private static final int ADD = 7;
-    private static final int IF_BELOW = 8;
-    private static final int SEARCH = 9;
-    private static final int END = 10;
-    private static final int ON_ERROR = 11;
-
+public final class ProgramTest extends Programs {
     public static void main(String[] args) {
         lineIsTold();
         lineRefuses();
@@ -48,30 +35,6 @@ public final class ProgramTest {
         atAnswers();
         travelAddsUp();
         Check.finish();
-    }
-
-    /** Joint 0 goes 10 in each tick; pose 0 is at 0, pose 1 at 50. */
-    private static ArmPendant arm(int[]... lines) {
-        ArmPendant x = new ArmPendant();
-        x.joint(0, 0, 100, 10, 10);
-        x.teach(0);
-        x.jog(0, 50);
-        x.teach(1);
-        x.jog(0, 0);
-        for (int[] l : lines) {
-            x.line(l[0], l[1], l[2]);
-        }
-        return x;
-    }
-
-    private static ArmPendant begun(int[]... lines) {
-        ArmPendant x = arm(lines);
-        x.run();
-        return x;
-    }
-
-    private static int[] l(int op, int a, int b) {
-        return new int[] {op, a, b};
     }
 
     /** The answers of about, from 0 on. */
@@ -164,6 +127,15 @@ public final class ProgramTest {
         Check.due("the 41st", x.script(1, 0, true), ArmPendant.FULL);
         Check.due("BAD is ahead of FULL", x.script(0, 0, true), ArmPendant.BAD);
         Check.due("how many", x.count(1), 40);
+        x = arm(l(WAIT, 99, 0));
+        for (int i = 1; i <= 40; i++) {
+            x.script(i, 3, i % 2 == 0);
+        }
+        x.run();
+        for (int i = 1; i <= 40; i++) {
+            x.tick(1);
+            Check.due("input 3 at " + i, x.at(2, 3), (i + 1) % 2);
+        }
     }
 
     private static void scriptsAreDoneInOrder() {
@@ -244,6 +216,16 @@ public final class ProgramTest {
         x.tick(20);
         Check.due("ended", x.about(0), 2);
         Check.due("run behind an end", x.run(), 1);
+        for (int i = 0; i < 8; i++) {
+            x = begun(l(OUT, i, 1), l(ADD, i, 1), l(WAIT, 1, 0));
+            x.tick(1);
+            x.stop();
+            Check.due("out " + i + " stays", x.at(0, i), 1);
+            Check.due("register " + i + " stays", x.at(1, i), 1);
+            x.run();
+            Check.due("out " + i + " is off", x.at(0, i), 0);
+            Check.due("register " + i + " is 0", x.at(1, i), 0);
+        }
     }
 
     private static void tickRefuses() {
@@ -384,6 +366,12 @@ public final class ProgramTest {
         Check.due("not below: it is that", x.at(0, 0), 1);
         Check.due("below", x.at(0, 1), 0);
         Check.due("below", x.at(0, 2), 0);
+        // Where it skips nothing it is nothing else either, such as a search.
+        x = arm(l(IF_BELOW, 3, 0), l(GO, 1, 100));
+        x.input(3, true);
+        x.run();
+        x.tick(1);
+        Check.due("it goes", x.state(0), 10);
     }
 
     private static void searchEndsGo() {
@@ -518,6 +506,12 @@ public final class ProgramTest {
         Check.due("the line for errors", x.about(8), 9);
         Check.due("stopped", x.tick(1), 3);
         about("as it is gone to", x, 3, 2, 3, 3, 1, 4, 0, 0, 9);
+        x = begun(l(ON_ERROR, 2, 0), l(GO, 9, 100));
+        Check.due("stopped", x.tick(1), 3);
+        about("just behind the last", x, 3, 1, 1, 3, 0, 2, 0, 0, 2);
+        x = begun(l(ON_ERROR, 1, 0), l(GO, 9, 100));
+        Check.due("goes on", x.tick(1), 1);
+        about("the last", x, 1, 1, 1, 1, 0, 2, 0, 0, -1);
     }
 
     /** 100 lines, and as many outs more as are told, and then behind the last line. */
