@@ -321,8 +321,8 @@ public final class ArmPendant {
         replayOfNow.become(now);
         for (int t = 0; t <= n; t++) {
             if (t > 0) {
-                tickIfGoing(replayOfKept);
-                tickIfGoing(replayOfNow);
+                cell.oneTick(replayOfKept);
+                cell.oneTick(replayOfNow);
             }
             if (replayOfKept.differsFrom(replayOfNow)) {
                 return t;
@@ -422,12 +422,6 @@ public final class ArmPendant {
 
     private boolean canGoBackTo(int k) {
         return isKept[k] && cell.allows(kept[k].states);
-    }
-
-    private void tickIfGoing(Moment moment) {
-        if (moment.stands == GOING) {
-            cell.oneTick(moment);
-        }
     }
 
     /**
@@ -811,11 +805,14 @@ public final class ArmPendant {
             return true;
         }
 
-        /** One more line than a tick may do is begun, so that it errs. */
+        /** One more line than a tick may do is begun, so that it errs. A moment without a run stays as it is. */
         void oneTick(Moment m) {
+            if (m.stands != GOING) {
+                return;
+            }
             m.time++;
             scripts.setInputs(m.time, m.inputs);
-            boolean spent = m.left > 0 && carryOn(m);
+            boolean spent = carryOn(m);
             for (int done = 0; done <= MOST_LINES_IN_A_TICK && !spent; done++) {
                 if (m.line < 0 || m.line >= program.count) {
                     m.end(program.count);
@@ -823,17 +820,19 @@ public final class ArmPendant {
                 } else if (done == MOST_LINES_IN_A_TICK) {
                     spent = err(m, TOO_MANY_LINES);
                 } else {
-                    spent = doLine(m, program.ops[m.line], program.as[m.line], program.bs[m.line]);
+                    spent = doLine(m, program.ops[m.line], program.as[m.line], program.bs[m.line]) || carryOn(m);
                 }
             }
         }
 
-        /** Whether the tick is spent, as with all that follow. */
+        /** Whether what is under way, if anything, spends the tick; all that follow tell the same. */
         private boolean carryOn(Moment m) {
-            return m.goes ? carryOnGo(m) : carryOnWait(m);
-        }
-
-        private boolean carryOnWait(Moment m) {
+            if (m.left <= 0) {
+                return false;
+            }
+            if (m.goes) {
+                return carryOnGo(m);
+            }
             m.spendTick();
             return true;
         }
@@ -867,7 +866,11 @@ public final class ArmPendant {
                 case GO:
                     return beginGo(m, poses[a], b);
                 case WAIT:
-                    return beginWait(m, a);
+                    m.left = a;
+                    if (a > 0) {
+                        return false;
+                    }
+                    break;
                 case OUT:
                     m.outs[a] = b == 1;
                     break;
@@ -913,16 +916,7 @@ public final class ArmPendant {
             }
             m.goes = true;
             m.left = m.motion.ticks;
-            return carryOnGo(m);
-        }
-
-        private boolean beginWait(Moment m, int ticks) {
-            if (ticks == 0) {
-                m.passLine();
-                return false;
-            }
-            m.left = ticks;
-            return carryOnWait(m);
+            return false;
         }
 
         private boolean jump(Moment m, int to) {
