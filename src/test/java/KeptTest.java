@@ -377,28 +377,4 @@ public final class KeptTest extends Programs {
         long then = x.digest();
         Check.due("it changes nothing", x.digest(), then);
     }
-
-    private static long sum(ArmPendant x) {
-        long h = 113;
-        for (int what = 0; what <= 3; what++) {
-            h = 31 * h + x.count(what);
-        }
-        for (int j = 0; j <= 3; j++) {
-            h = 31 * h + x.state(j);
-        }
-        h = 31 * h + x.tip(0);
-        h = 31 * h + x.tip(1);
-        for (int what = 0; what <= 8; what++) {
-            h = 31 * h + x.about(what);
-        }
-        for (int what = 0; what <= 2; what++) {
-            for (int i = 0; i <= 7; i++) {
-                h = 31 * h + x.at(what, i);
-            }
-        }
-        for (int j = 0; j <= 3; j++) {
-            h = 31 * h + x.travel(j);
-        }
-        return h;
-    }
 }

@@ -1,3 +1,5 @@
+import java.math.BigInteger;
+
 /** What tests of programs begin with. */
 abstract class Programs {
     static final int GO = 0;
@@ -35,5 +37,31 @@ abstract class Programs {
 
     static int[] l(int op, int a, int b) {
         return new int[] {op, a, b};
+    }
+
+    /** The digest by what the other calls answer: without wrapping, and cut to 64 bits at its end. */
+    static long sum(ArmPendant x) {
+        BigInteger h = BigInteger.valueOf(113);
+        for (int what = 0; what <= 3; what++) {
+            h = next(h, x.count(what));
+        }
+        for (int j = 0; j <= 3; j++) {
+            h = next(h, x.state(j));
+        }
+        h = next(next(h, x.tip(0)), x.tip(1));
+        for (int what = 0; what <= 8; what++) {
+            h = next(h, x.about(what));
+        }
+        for (int i = 0; i < 24; i++) {
+            h = next(h, x.at(i / 8, i % 8));
+        }
+        for (int j = 0; j <= 3; j++) {
+            h = next(h, x.travel(j));
+        }
+        return h.longValue();
+    }
+
+    private static BigInteger next(BigInteger h, long v) {
+        return h.multiply(BigInteger.valueOf(31)).add(BigInteger.valueOf(v));
     }
 }
